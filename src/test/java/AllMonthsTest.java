@@ -53,6 +53,9 @@ public final class AllMonthsTest {
         Check.is("limited(): 139 of 2330", desk.limited(), 2);
         desk.terms(1, 63);
         Check.is("limited(): 146 is not reached", desk.limited(), -2);
+        WorksDesk little = Check.desk("0:20*1");
+        little.measures(4, 0, 10);
+        Check.is("limited() of 1", little.limited(), 4);
     }
 
     private static void reaches() {
@@ -80,6 +83,9 @@ public final class AllMonthsTest {
         desk.pays(0, 5000);
         Check.is("worst() of none", desk.worst(), 0);
         Check.row("worst() of none", desk, 0, 0);
+        desk.pays(0, 592);
+        Check.is("worst() of 1", desk.worst(), 1);
+        Check.row("worst() of 1", desk, 1, 22);
         desk.pays(0, 0);
         desk.pays(5, 9999);
         Check.is("worst()", desk.worst(), 1);
@@ -190,9 +196,9 @@ public final class AllMonthsTest {
 
     private static void were() {
         WorksDesk desk = setOff();
-        Check.is("all INTEREST", desk.amount(23, 11), 196);
         Check.is("were(0, 3)", desk.were(0, 3), 0);
         Check.row("were(0, 3)", desk, 40, 16);
+        Check.is("all INTEREST", desk.amount(23, 11), 196);
         Check.is("were(0, 1)", desk.were(0, 1), 0);
         Check.row("were(0, 1)", desk, 40, 17);
         // held till 22: 850 till 6, 875 in 6, 900 from 7 on; 1000 in 23
@@ -266,6 +272,14 @@ public final class AllMonthsTest {
         desk.measures(3, 0, 99);
         Check.is("ends: it was not so", desk.ends(0), -3);
         Check.row("the ROW stays", desk, 0);
+        desk.measures(0, 1, 2);
+        Check.is("ends: told in 0 alone", desk.ends(1), 2);
+        Check.row("ends: told in 0 alone", desk, 2);
+        desk.measures(1, 1, 3);
+        Check.is("ends: told in 0 and 1", desk.ends(1), 3);
+        Check.row("ends: told in 0 and 1", desk, 1);
+        desk.measures(0, 1, 5);
+        Check.is("ends in 0", desk.ends(1), 0);
     }
 
     private static void leads() {
@@ -302,6 +316,14 @@ public final class AllMonthsTest {
         Check.row("above(5)", desk, 0, 4);
         Check.is("above(6)", desk.above(6), 5);
         Check.row("above(6)", desk, 0, 0);
+        desk.measures(1, 0, 39);
+        Check.is("above(1)", desk.above(1), 0);
+        Check.row("above(1): fallen in 1", desk, 0, 1);
+        desk.measures(7, 0, 116);
+        desk.measures(7, 2, 12);
+        desk.measures(7, 1, 1);
+        Check.is("above(7)", desk.above(7), 5);
+        Check.row("above(7)", desk, 5, 2);
         Check.is("above(0)", desk.above(0), 0);
         Check.row("above(0)", desk, 0, 0);
         Check.is("above(-1)", desk.above(-1), -1);
@@ -309,6 +331,10 @@ public final class AllMonthsTest {
     }
 
     private static void like() {
+        WorksDesk one = Check.desk("3:1*70;2:1*7;3:1*70;3:1*9");
+        Check.is("like(2, 5)", one.like(2, 5), 7);
+        Check.is("like(3, 5)", one.like(3, 5), 49);
+        Check.row("like(3, 5)", one, 13, 9, 70);
         WorksDesk desk = Check.desk("0:100*10;1:5*7;0:50*20");
         Check.is("like(0, 5)", desk.like(0, 5), 13);
         Check.row("like(0, 5)", desk, 5, 10, 20);
@@ -325,7 +351,6 @@ public final class AllMonthsTest {
 
     private static void would() {
         WorksDesk desk = MonthsTest.works();
-        Check.is("all INTEREST", desk.amount(23, 11), 288);
         // CHEAP 0: WORK 1363 in 2, of which just 224 are RECOVERED
         int[][] calls = {{0, 0, 116, 23}, {0, 100, 0, 0}, {7, 0, 0, -288}, {8, 0, 0, 13}, {10, 0, -78, -21}};
         for (int[] call : calls) {
@@ -394,8 +419,13 @@ public final class AllMonthsTest {
         desk.terms(12, 0);
         Check.is("overdue(), MOST 0", desk.overdue(), 3);
         Check.row("overdue(), MOST 0", desk, 0, -1);
-        Check.bill(desk, "0:1*1");
+        Check.bill(desk, "0:1*50");
         Check.is("overdue(): DUE is not told", desk.overdue(), -2);
+        desk.due(20);
+        desk.terms(12, 20);
+        Check.is("overdue() of 1", desk.overdue(), 3);
+        Check.row("overdue() of 1", desk, 1, 21);
+        Check.is("needed() of 1", desk.needed(), 3);
     }
 
     private static void needed() {

@@ -62,6 +62,8 @@ public final class MonthsTest {
         amounts("handed over", desk, 6, 593, 1444, 1778, 1213, 1172, 1172, 1250, 1250);
         amounts("handed over", desk, 7, 593, 851, 334, 0, 0, 0, 1250 - 1778, 0);
         amounts("handed over", desk, 8, 593, 1444, 1778, 1778, 1778, 1778, 1250, 1250);
+        desk.terms(5, 1000);
+        amounts("RECOVER 1000: nothing below START", desk, 4, 0, 233, 233);
         desk.strikes(2, 2);
         desk.terms(5, 0);
         amounts("recovered at FINAL", desk, 4, 0, 0, 0, 0, 0, 0, 233, 233);
@@ -159,6 +161,8 @@ public final class MonthsTest {
         WorksDesk desk = works();
         Check.is("item(0, 0)", desk.item(0, 0), 40);
         Check.row("item(0, 0)", desk, 400, 400, 0);
+        Check.is("item(1, 0)", desk.item(1, 0), 40);
+        Check.row("item(1, 0)", desk, 400, 0, 0);
         Check.is("item(3, 0)", desk.item(3, 0), 20);
         Check.row("item(3, 0)", desk, 200, -200, 0);
         Check.is("item(2, 2)", desk.item(2, 2), 14);

@@ -60,7 +60,8 @@ public final class RandomRunsTest {
     private void measureOnwards(int item) {
         int done = 0;
         for (int month = random.nextInt(4); month < 24; month += 1 + random.nextInt(4)) {
-            done = Math.max(0, Math.min(1999, done + random.nextInt(small ? 4 : 150) - (random.nextInt(4) == 0 ? 30 : 0)));
+            int more = random.nextInt(small ? 4 : 150) - (random.nextInt(4) == 0 ? 30 : 0);
+            done = Math.max(0, Math.min(1999, done + more));
             same("measures", desk.measures(month, item, done), plain.measures(month, item, done));
         }
     }
@@ -147,8 +148,10 @@ public final class RandomRunsTest {
                 same("terms", desk.terms(a, b), plain.terms(a, b)); break;
             case 4: b = within(0, 9); c = within(0, 1999); say("measures", a, b, c);
                 same("measures", desk.measures(a, b, c), plain.measures(a, b, c)); break;
-            case 5: b = within(0, 9); say("strikes", a, b); same("strikes", desk.strikes(a, b), plain.strikes(a, b)); break;
-            case 6: b = within(0, 99999); say("stores", a, b); same("stores", desk.stores(a, b), plain.stores(a, b)); break;
+            case 5: b = within(0, 9); say("strikes", a, b);
+                same("strikes", desk.strikes(a, b), plain.strikes(a, b)); break;
+            case 6: b = within(0, 99999); say("stores", a, b);
+                same("stores", desk.stores(a, b), plain.stores(a, b)); break;
             case 7: b = within(0, 4); c = within(small ? -5 : -999, 999); int rate = within(0, 999);
                 say("change", a, b, c, rate);
                 same("change", desk.change(a, b, c, rate), plain.change(a, b, c, rate)); break;
@@ -156,7 +159,8 @@ public final class RandomRunsTest {
                 same("alters", desk.alters(a, b), plain.alters(a, b)); break;
             case 9: b = within(1, small ? 200 : 99999); say("setsOff", a, b);
                 same("setsOff", desk.setsOff(a, b), plain.setsOff(a, b)); break;
-            case 10: b = within(0, 5); say("disputes", b, a); same("disputes", desk.disputes(b, a), plain.disputes(b, a)); break;
+            case 10: b = within(0, 5); say("disputes", b, a);
+                same("disputes", desk.disputes(b, a), plain.disputes(b, a)); break;
             case 11: b = within(0, 5); c = within(0, 1000); say("decides", b, a, c);
                 same("decides", desk.decides(b, a, c), plain.decides(b, a, c)); break;
             case 12: say("handover", a); same("handover", desk.handover(a), plain.handover(a)); break;
@@ -164,7 +168,8 @@ public final class RandomRunsTest {
             case 14: b = within(0, 999999); say("pays", a, b); same("pays", desk.pays(a, b), plain.pays(a, b)); break;
             case 15: say("due", a); same("due", desk.due(a), plain.due(a)); break;
             case 16: a = within(1, 12); say("grants", a); same("grants", desk.grants(a), plain.grants(a)); break;
-            case 17: b = within(500, 2000); say("indexes", a, b); same("indexes", desk.indexes(a, b), plain.indexes(a, b)); break;
+            case 17: b = within(500, 2000); say("indexes", a, b);
+                same("indexes", desk.indexes(a, b), plain.indexes(a, b)); break;
             default: ask(kind, a);
         }
     }
@@ -184,7 +189,8 @@ public final class RandomRunsTest {
                 same("reaches", desk.reaches(v), plain.reaches(v)); break;
             case 26: say("worst"); same("worst", desk.worst(), plain.worst()); break;
             case 27: say("clears", a); same("clears", desk.clears(a), plain.clears(a)); break;
-            case 28: b = within(1, 999999); say("paces", a, b); same("paces", desk.paces(a, b), plain.paces(a, b)); break;
+            case 28: b = within(1, 999999); say("paces", a, b);
+                same("paces", desk.paces(a, b), plain.paces(a, b)); break;
             case 29: b = month(); say("enough", a, b); same("enough", desk.enough(a, b), plain.enough(a, b)); break;
             case 30: b = within(0, 9); c = within(0, 1999); say("shifts", a, b, c);
                 same("shifts", desk.shifts(a, b, c), plain.shifts(a, b, c)); break;
@@ -193,15 +199,19 @@ public final class RandomRunsTest {
             case 33: a = within(0, 9); say("ends", a); same("ends", desk.ends(a), plain.ends(a)); break;
             case 34: say("leads", a); same("leads", desk.leads(a), plain.leads(a)); break;
             case 35: say("above", a); same("above", desk.above(a), plain.above(a)); break;
-            case 36: a = within(0, 4); b = within(0, 999); say("like", a, b); same("like", desk.like(a, b), plain.like(a, b)); break;
+            case 36: a = within(0, 4); b = within(0, 999); say("like", a, b);
+                same("like", desk.like(a, b), plain.like(a, b)); break;
             case 37: a = within(0, 13); b = within(0, new int[] {200, 1000, 6}[random.nextInt(3)]); say("would", a, b);
                 same("would", desk.would(a, b), plain.would(a, b)); break;
-            case 38: a = small ? within(1, 30) : within(1, 1000000); say("keeps", a); same("keeps", desk.keeps(a), plain.keeps(a)); break;
+            case 38: a = small ? within(1, 30) : within(1, 1000000); say("keeps", a);
+                same("keeps", desk.keeps(a), plain.keeps(a)); break;
             case 39: say("overdue"); same("overdue", desk.overdue(), plain.overdue()); break;
             case 40: say("needed"); same("needed", desk.needed(), plain.needed()); break;
-            case 41: b = within(500, 2000); say("rises", a, b); same("rises", desk.rises(a, b), plain.rises(a, b)); break;
+            case 41: b = within(500, 2000); say("rises", a, b);
+                same("rises", desk.rises(a, b), plain.rises(a, b)); break;
             case 42: say("account"); same("account", desk.account(), plain.account()); break;
-            case 43: a = plain.count(6); say("row", a); same("row throws", Check.throwsAtRow(desk, a) ? 1 : 0, 1); break;
+            case 43: a = plain.count(6); say("row", a);
+                same("row throws", Check.throwsAtRow(desk, a) ? 1 : 0, 1); break;
             case 44: a = edge(0, 23); boolean no = a < 0 || a > 23; say("amount", a, 0);
                 same("amount throws", Check.throwsAtAmount(desk, a, 0) ? 1 : 0, no ? 1 : 0); break;
             default: a = edge(0, 14); boolean none = a < 0 || a > 14; say("amount", 0, a);

@@ -32,6 +32,7 @@ public final class ToldTest {
         for (int what = 0; what < 15; what++) {
             Check.is("new: amount(23, " + what + ")", desk.amount(23, what), 0);
         }
+        Check.is("new: sum()", new WorksDesk().sum(), 0);
         Check.is("new: row(0) throws", Check.throwsAtRow(desk, 0), true);
         Check.is("NONE", WorksDesk.NONE, -1);
     }
@@ -99,6 +100,7 @@ public final class ToldTest {
         desk.terms(0, 77);
         desk.terms(11, 50);
         desk.terms(13, 1000);
+        desk.measures(0, 0, 5);
         desk.measures(0, 1, 5);
         desk.stores(0, 100);
         desk.change(0, 0, 5, 5);
@@ -126,6 +128,7 @@ public final class ToldTest {
         Check.is("bill anew: DAMAGES", desk.amount(23, 13), 0);
         Check.is("bill anew: ADJUSTED", desk.amount(23, 14), 0);
         Check.is("bill anew: INDEX", desk.indexes(0, 1500), 1000);
+        Check.is("bill anew: strikes", desk.strikes(0, 0), -2);
         Check.is("bill anew: strikes", desk.strikes(0, 1), -2);
         Check.is("bill anew: DUE", desk.due(0), 24);
         desk.setsOff(0, 10);
@@ -185,6 +188,9 @@ public final class ToldTest {
         Check.is("strikes(2, 0)", desk.strikes(2, 0), 0);
         Check.is("DONE without", desk.item(23, 0), 0);
         Check.is("the other stays", desk.item(23, 1), 5);
+        desk.measures(0, 0, 3);
+        desk.measures(1, 0, 4);
+        Check.is("strikes(1, 0)", desk.strikes(1, 0), 3);
         int[][] wrong = {{-1, 0}, {24, 0}, {0, -1}, {0, 2}};
         for (int[] call : wrong) {
             Check.is("strikes, wrong", desk.strikes(call[0], call[1]), -1);
