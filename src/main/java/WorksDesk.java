@@ -821,19 +821,24 @@ public final class WorksDesk {
             return true;
         }
 
-        /** 0 tells of a fault: at its last digit, or at the sign that is no digit. */
+        /** 0 tells of a fault: at its last digit, or at the sign behind it that can't stand there. */
         private int readNumber(Text text) {
             int number = 0;
             int digits = 0;
-            while (digits < 3 && isWithin(text.signAt(at), '0', '9')) {
+            while (digits < 3 && isDigit(text)) {
                 number = 10 * number + text.signAt(at) - '0';
                 digits++;
                 at++;
             }
-            if (digits > 0 && number == 0) {
+            // Three digits of 0 with a fourth behind them: the third is not the last, so the fourth is the fault.
+            if (digits > 0 && number == 0 && !isDigit(text)) {
                 at--;
             }
             return number;
+        }
+
+        private boolean isDigit(Text text) {
+            return isWithin(text.signAt(at), '0', '9');
         }
     }
 

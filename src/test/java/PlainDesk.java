@@ -295,9 +295,6 @@ final class PlainDesk {
                 digits = "";
             } else if (c >= '0' && c <= '9') {
                 digits += c;
-                if (digits.equals("0000") || digits.equals("000")) {
-                    return p - digits.length() + 3;
-                }
                 if (digits.length() == 4) {
                     return p;
                 }
