@@ -282,6 +282,10 @@ public final class AskedEdgesTest {
         desk.terms(8, 0);
         Check.is("worst(): GRACE 0", desk.worst(), 0);
         Check.row("worst(): GRACE 0", desk, 10, 24);
+        desk.pays(5, 4);
+        Check.is("worst(): less is OWED later", desk.worst(), 0);
+        Check.row("worst(): less is OWED later", desk, 10, 24);
+        desk.pays(5, 0);
         desk.pays(0, 9);
         Check.is("worst(): OWED 1", desk.worst(), 0);
         Check.row("worst(): OWED 1", desk, 1, 24);
@@ -311,6 +315,10 @@ public final class AskedEdgesTest {
         clearsIs(desk, 2, 1, 10);
         desk.pays(2, 1001);
         clearsIs(desk, 2, 0, 10);
+        desk.pays(2, 0);
+        desk.pays(23, 500);
+        clearsIs(desk, 0, 0, 22 * 10 + 5);
+        clearsIs(desk, 23, 500, 22 * 10);
         WorksDesk dear = Check.desk("0:999*999;0:999*999");
         dear.measures(0, 0, 999);
         dear.measures(0, 1, 999);
@@ -478,6 +486,11 @@ public final class AskedEdgesTest {
         wereIs(desk, 0, 4, 400, 4 * 19);
         Check.is("it stays decided", desk.decides(0, 4, 1000), -3);
         Check.is("it stays disputed", desk.held(0, 4), 400);
+        desk.handover(5);
+        desk.closes(5);
+        // never decided: nothing is set off at the end, either
+        wereIs(desk, 0, 4, 400, 4 * 19);
+        wereIs(desk, 0, 23, 400, 0);
     }
 
     private static void dearest() {
@@ -579,6 +592,8 @@ public final class AskedEdgesTest {
         leadsIs(desk, 1, 0, 0);
         desk.measures(0, 8, 1);
         leadsIs(desk, 0, 8, 999);
+        desk.measures(1, 1, 7);
+        leadsIs(desk, 1, 1, 7 * 999);
         for (int item = 0; item < 10; item++) {
             desk.measures(22, item, 20);
             desk.measures(23, item, item == 4 ? 19 : 18);
@@ -633,6 +648,7 @@ public final class AskedEdgesTest {
         likeIs(new WorksDesk(), 4, 999, 999, 0, 0, 0);
         likeIs(Check.desk(Stories.TEN_ITEMS), 4, 0, 999, 1023, 999, 999);
         likeIs(Check.desk(Stories.TEN_ITEMS), 3, 1, 1, 0, 0, 0);
+        likeIs(Check.desk("2:1*9;2:1*5;2:1*7"), 2, 0, 7, 7, 5, 9);
         WorksDesk desk = Check.desk("0:1*1;4:2*5;0:1*999;4:1*5;4:1*3;0:1*500");
         likeIs(desk, 0, 7, 500, 37, 1, 999);
         likeIs(desk, 4, 7, 4, 26, 3, 5);
@@ -695,6 +711,15 @@ public final class AskedEdgesTest {
         WorksDesk below = Check.desk("0:100*10");
         below.change(0, 1, -999, 999);
         Check.is("keeps(1), WORK below 0", below.keeps(1), -2);
+        WorksDesk first = Check.desk("0:100*10");
+        first.measures(0, 0, 50);
+        first.measures(1, 0, 0);
+        keepsIs(first, 50, 100, 50);
+        WorksDesk large = Check.desk("0:200*10");
+        large.terms(1, 200);
+        large.measures(0, 0, 100);
+        keepsIs(large, 200, 200, 200);
+        Check.is("keeps(201): KEEP would be 201", large.keeps(201), -2);
     }
 
     private static WorksDesk late(int due) {
@@ -774,6 +799,8 @@ public final class AskedEdgesTest {
         neededIs(handed, 18, 0);
         handed.terms(12, 0);
         neededIs(handed, 0, 0);
+        handed.terms(12, 1);
+        neededIs(handed, 18, 0);
         handed.terms(12, 100);
         handed.terms(11, 0);
         neededIs(handed, 0, 0);
@@ -851,6 +878,9 @@ public final class AskedEdgesTest {
         Check.is("count(23) is FOLLOW", desk.count(23), 0);
         desk.terms(13, 7);
         Check.is("count(23) is FOLLOW", desk.count(23), 7);
+        Check.is("HANDOVER not told", desk.count(3), -1);
+        Check.is("FINAL not told", desk.count(4), -1);
+        Check.is("DUE not told", desk.count(8), -1);
         desk.handover(0);
         desk.closes(0);
         Check.is("HANDOVER in 0", desk.count(3), 0);

@@ -18,7 +18,11 @@ public final class BillTextsTest {
         Pattern.compile("([0-4](:(0{1,3}(?!\\d)|\\d{1,3}(\\*(0{1,3}(?!\\d)|\\d{1,3})?)?)?)?)?");
     private static final Pattern ENDS_IN_NOTHING = Pattern.compile("[0-4]:(\\d{1,3}\\*)?0{1,3}");
 
-    private final WorksDesk desk = new WorksDesk();
+    /** So many texts keep a desk below its 512 calls. */
+    private static final int TEXTS_OF_A_DESK = 12;
+
+    private WorksDesk desk = new WorksDesk();
+    private int texts = 0;
 
     public static void main(String[] args) {
         BillTextsTest test = new BillTextsTest();
@@ -66,6 +70,10 @@ public final class BillTextsTest {
     }
 
     private void compare(String text) {
+        texts++;
+        if (texts % TEXTS_OF_A_DESK == 0) {
+            desk = new WorksDesk();
+        }
         int fault = fault(text);
         int due = fault != NO_FAULT ? -1 - fault : text.isEmpty() ? 0 : text.split(";").length;
         Check.is("bill of " + text, Check.bill(desk, text), due);

@@ -16,6 +16,7 @@ public final class LikenessTest {
         toldInAnotherOrder();
         signsAreToldAnew();
         billForgetsAllButTerms();
+        toldBehindABill();
         desksAreApart();
         Check.end("LikenessTest");
     }
@@ -175,6 +176,31 @@ public final class LikenessTest {
             });
         }
         Twins.sameButTheRow("a bill of nothing, of a new desk", desk -> desk.bill(), desk -> { });
+    }
+
+    /** What is told behind a BILL meets nothing of what was told ahead of it. */
+    private static void toldBehindABill() {
+        Twins.same("told behind a bill", desk -> {
+            Stories.full(desk);
+            Check.bill(desk, "0:5*5");
+            secondStory(desk);
+        }, desk -> {
+            Stories.someTerms(desk);
+            Check.bill(desk, "0:5*5");
+            secondStory(desk);
+        });
+    }
+
+    private static void secondStory(WorksDesk desk) {
+        desk.measures(6, 0, 3);
+        for (int setOff = 0; setOff < 6; setOff++) {
+            desk.setsOff(setOff, 50);
+        }
+        desk.disputes(2, 3);
+        desk.change(2, 3, 4, 5);
+        desk.handover(6);
+        desk.due(1);
+        desk.sum();
     }
 
     /** No state of all desks: what one is told another does not know. */

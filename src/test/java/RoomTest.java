@@ -17,8 +17,19 @@ public final class RoomTest {
         long before = threads.getThreadAllocatedBytes(Thread.currentThread().getId());
         rounds(desk);
         long made = threads.getThreadAllocatedBytes(Thread.currentThread().getId()) - before;
+        roomOfADesk(threads);
         Check.is("bytes made by " + ROUNDS + " rounds of calls (" + made + ") are next to none", made < 8 * ROUNDS, true);
         Check.end("RoomTest");
+    }
+
+    /** A room of 7.3 million elements holds some hundreds of desks with ease: a desk has some 2,000 of them. */
+    private static void roomOfADesk(ThreadMXBean threads) {
+        long before = threads.getThreadAllocatedBytes(Thread.currentThread().getId());
+        for (int i = 0; i < ROUNDS; i++) {
+            sink += new WorksDesk().count(0);
+        }
+        long made = (threads.getThreadAllocatedBytes(Thread.currentThread().getId()) - before) / ROUNDS;
+        Check.is("bytes made by a new desk (" + made + ") are few", made < 20000, true);
     }
 
     private static void rounds(WorksDesk desk) {

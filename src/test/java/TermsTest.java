@@ -506,6 +506,17 @@ public final class TermsTest {
         MonthsTest.amounts("FINAL in 1: less is CERTIFIED behind it, too", desk, CERTIFIED, 100, -10, 0, -10, 30, 0);
         desk.closes(0);
         MonthsTest.amounts("FINAL in 0", desk, CERTIFIED, 100, -10, 0, -10, 30, 0);
+        WorksDesk ones = ones();
+        ones.terms(0, 0);
+        ones.terms(3, 0);
+        ones.measures(0, 0, 10);
+        ones.measures(1, 0, 9);
+        ones.measures(2, 0, 10);
+        ones.measures(3, 0, 11);
+        MonthsTest.amounts("1 less", ones, CERTIFIED, 10, 0, 0, 1, 0);
+        ones.handover(0);
+        ones.closes(1);
+        MonthsTest.amounts("1 less, FINAL in 1", ones, CERTIFIED, 10, -1, 1, 1, 0);
         WorksDesk first = Stories.bare();
         first.setsOff(0, 5);
         first.handover(0);

@@ -259,6 +259,10 @@ public final class ToldEdgesTest {
         Check.is("what is told later stays", desk.item(23, 0), 4);
         Check.is("strikes in 23: DONE as told in 0", desk.strikes(23, 0), 2);
         Check.is("strikes in 0: DONE without", desk.strikes(0, 0), 0);
+        desk.measures(0, 0, 5);
+        desk.measures(1, 0, 6);
+        Check.is("strikes in 1: DONE as told in 0", desk.strikes(1, 0), 5);
+        Check.is("DONE from 1 on", desk.item(1, 0), 5);
     }
 
     private static void stores() {
@@ -316,6 +320,10 @@ public final class ToldEdgesTest {
         desk.priced(1);
         Check.row("the one behind stays", desk, 1, 1, 11, 11, 0);
         Check.is("no more CHANGES by it", desk.count(1), 8);
+        desk.alters(3, -1);
+        Check.is("what it was, though that is -1", desk.alters(3, -2), -1);
+        Check.is("what it was, though that is -2", desk.alters(3, -3), -2);
+        Check.is("it has become another one", desk.alters(3, 4), -3);
     }
 
     private static void setsOff() {
