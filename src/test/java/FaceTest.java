@@ -31,11 +31,13 @@ public final class FaceTest {
         Check.is("methods of the document", due.size(), 46);
         Check.is("the face is the document's: " + found, found.equals(due), true);
         members(WorksDesk.class, names);
+        fewFields(WorksDesk.class);
         Check.is("the class is final", Modifier.isFinal(WorksDesk.class.getModifiers()), true);
         Check.is("classes inside", WorksDesk.class.getDeclaredClasses().length <= 11, true);
         for (Class<?> inside : WorksDesk.class.getDeclaredClasses()) {
             Check.is(inside + " is static", Modifier.isStatic(inside.getModifiers()), true);
             insideNames(inside, names);
+            fewFields(inside);
         }
         Check.end("FaceTest");
     }
@@ -65,6 +67,11 @@ public final class FaceTest {
             Check.is(made + " takes nothing", made.getParameterCount(), 0);
             Check.is(made + " is public", Modifier.isPublic(made.getModifiers()), true);
         }
+    }
+
+    private static void fewFields(Class<?> one) {
+        long many = Arrays.stream(one.getDeclaredFields()).filter(f -> !Modifier.isStatic(f.getModifiers())).count();
+        Check.is(one + " has " + many + " fields", many <= 20, true);
     }
 
     private static void insideNames(Class<?> inside, Set<String> names) {

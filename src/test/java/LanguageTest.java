@@ -17,6 +17,13 @@ public final class LanguageTest {
         "static\\s*\\{", "Exact\\(", "\\bSystem\\.(?!arraycopy\\b)", "\\bMath\\.(?!max\\b|min\\b|abs\\b)",
         "\\bInteger\\.(?!bitCount\\b)", "\\bArrays\\.(?!fill\\b|copyOf\\b|copyOfRange\\b)", "\\bjava\\.(?!util\\.)",
         "\\bthrow (?!new NoSuchElementException\\(\\);)", "\\bhashCode\\b", "\\btoString\\b", "\\bequals\\b"};
+    /** The calls in the document's order, under the words that its interface says ahead of them. */
+    private static final String SECTIONS = "---- what is told: sign end bill terms measures strikes stores change alters "
+        + "setsOff disputes decides handover closes pays due grants indexes "
+        + "---- months: amount item priced held sum lines "
+        + "---- all months: recovered limited reaches worst clears paces enough shifts were dearest ends leads above like "
+        + "would keeps overdue needed rises "
+        + "---- the final account: account count row ";
     private static final Pattern METHOD = Pattern.compile("(?m)^( {4}| {8})(?=\\S)[\\w<>\\[\\] ]*\\w+\\(([^)]*)\\)[\\w ]*\\{$");
 
     public static void main(String[] args) throws IOException {
@@ -29,6 +36,7 @@ public final class LanguageTest {
         imports(code);
         methods(code);
         staticFields(code);
+        Check.is("calls and what is said ahead of them", sections(text).equals(SECTIONS), true);
         Check.is("classes, at most " + MOST_CLASSES, count(code, "\\bclass \\w+ \\{") <= MOST_CLASSES, true);
         Check.is("public classes", count(code, "\\bpublic [\\w ]*class\\b"), 1);
         Check.end("LanguageTest");
@@ -66,6 +74,21 @@ public final class LanguageTest {
             Check.is(head + " takes seven at most", found.group(2).split(",").length <= MOST_PARAMETERS, true);
         }
         Check.is("methods were found", many > 46, true);
+    }
+
+    private static String sections(String text) {
+        StringBuilder said = new StringBuilder();
+        Matcher found = Pattern.compile("(?m)^    // (---- .*)$|^    public \\w+ (\\w+)\\(").matcher(text);
+        String ahead = "";
+        while (found.find()) {
+            if (found.group(1) != null) {
+                ahead = found.group(1) + ": ";
+            } else {
+                said.append(ahead).append(found.group(2)).append(' ');
+                ahead = "";
+            }
+        }
+        return said.toString();
     }
 
     /** Static fields are final numbers, or arrays of them that are written out. */
